@@ -236,6 +236,15 @@ public final class PromisesTest {
         Due.same("setBatch(0, 0)", x.setBatch(0, 0), 1);
         x.finish(4, true);
         queue("setBatch: none", x, 0, "[5 6 7]");
+        MachineFoundry full = withIdle(16);
+        full.setBatch(0, 0);
+        for (int machine = 0; machine < 16; machine++) {
+            full.order(machine);
+        }
+        full.dropImage(0);
+        full.setBatch(0, 1);
+        queue("setBatch: none of 16 has a match", full, 0, "[]");
+        Due.same("setBatch: the last of 16", full.stateOf(15), MachineFoundry.IDLE);
         Supplier<MachineFoundry> scene = () -> withOrdered(5);
         for (int rack : NO_RACKS) {
             Due.refused("setBatch(" + rack + ", 1)", NO_SUCH, scene, y -> y.setBatch(rack, 1));
