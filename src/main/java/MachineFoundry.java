@@ -413,8 +413,8 @@ public final class MachineFoundry {
         // Each round takes a machine out of the queue, so as many rounds as
         // there are machines empty any queue.
         for (int round = 0; round < MACHINE_COUNT; round++) {
-            Machine first = queuedAt(rack, 0);
-            if (first == null || countInstalling(rack) >= batch) {
+            Machine first = countInstalling(rack) < batch ? queuedAt(rack, 0) : null;
+            if (first == null) {
                 return;
             }
             begin(first);

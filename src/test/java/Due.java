@@ -1,4 +1,5 @@
 import java.util.function.Consumer;
+import java.util.function.ObjIntConsumer;
 import java.util.function.Supplier;
 
 /** What the tests of the project share: comparing answers with what is due. */
@@ -36,12 +37,50 @@ final class Due {
         }
     }
 
+    /** A look at an object that shows what a call has changed; it may change the object itself. */
+    private interface Look {
+        String of(MachineFoundry x);
+    }
+
     /** A call that throws, and an object that is behind it as one that never saw the call. */
     static void refused(String what, Class<? extends RuntimeException> want,
             Supplier<MachineFoundry> scene, Consumer<MachineFoundry> call) {
-        MachineFoundry called = scene.get();
-        thrown(what, want, () -> call.accept(called));
-        same(what + " changes nothing", allOf(called), allOf(scene.get()));
+        // One look at all would take more than an object's 512 calls.
+        for (Look look : new Look[] {Due::allOf, Due::placesOf}) {
+            MachineFoundry called = scene.get();
+            thrown(what, want, () -> call.accept(called));
+            same(what + " changes nothing", look.of(called), look.of(scene.get()));
+        }
+    }
+
+    /** A call with a number that is below the least, above the most, or far out. */
+    static void outside(String what, Class<? extends RuntimeException> want, int least, int most,
+            Supplier<MachineFoundry> scene, ObjIntConsumer<MachineFoundry> call) {
+        for (int wrong : new int[] {least - 1, most + 1, Integer.MIN_VALUE, Integer.MAX_VALUE}) {
+            refused(what + " " + wrong, want, scene, x -> call.accept(x, wrong));
+        }
+    }
+
+    static void states(String what, MachineFoundry x, int... want) {
+        for (int machine = 0; machine < want.length; machine++) {
+            same(what + ": stateOf(" + machine + ")", x.stateOf(machine), want[machine]);
+        }
+    }
+
+    static void queue(String what, MachineFoundry x, int rack, String want) {
+        same(what + ": the queue of rack " + rack, queueOf(x, rack), want);
+    }
+
+    /** The machines of the latest entries, the oldest of them first. */
+    static void latest(String what, MachineFoundry x, int... want) {
+        StringBuilder got = new StringBuilder();
+        StringBuilder due = new StringBuilder();
+        for (int i = 0; i < want.length; i++) {
+            int entry = want.length - 1 - i;
+            got.append(' ').append(entry < x.entries() ? "" + x.machineAt(entry) : "none");
+            due.append(' ').append(want[i]);
+        }
+        same(what + ": the latest entries", got.toString(), due.toString());
     }
 
     /** Every answer, and then what only a change shows; it takes some 300 of an object's 512 calls. */
@@ -63,6 +102,36 @@ final class Due {
             }
         }
         return all.toString();
+    }
+
+    /** The rack of each machine that has reported, whatever its state: where it stands when it is ordered. */
+    static String placesOf(MachineFoundry x) {
+        for (int rack = 0; rack < 4; rack++) {
+            x.setBatch(rack, 0);
+        }
+        x.setImage(7, 9, 0, 15, 0, 0);
+        StringBuilder all = new StringBuilder();
+        for (int machine = 0; machine < 16; machine++) {
+            bringToIdle(x, machine);
+            if (x.stateOf(machine) == MachineFoundry.IDLE) {
+                x.order(machine);
+            }
+        }
+        for (int rack = 0; rack < 4; rack++) {
+            all.append(queueOf(x, rack));
+        }
+        return all.toString();
+    }
+
+    private static void bringToIdle(MachineFoundry x, int machine) {
+        switch (x.stateOf(machine)) {
+            case MachineFoundry.QUEUED: case MachineFoundry.WAITING: x.cancel(machine); break;
+            case MachineFoundry.INSTALLING: x.finish(machine, true); x.retire(machine, 0); break;
+            case MachineFoundry.IN_USE: x.retire(machine, 0); break;
+            case MachineFoundry.DRAINING: x.keep(machine); x.retire(machine, 0); break;
+            case MachineFoundry.QUARANTINED: x.release(machine); break;
+            default:
+        }
     }
 
     static String questionsOf(MachineFoundry x) {

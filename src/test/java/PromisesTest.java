@@ -50,73 +50,6 @@ public final class PromisesTest {
         Due.end();
     }
 
-    // ---- scenes
-
-    /** Image 0 matches whatever has reported. */
-    private static MachineFoundry withImage() {
-        MachineFoundry x = new MachineFoundry();
-        x.setImage(0, 0, 0, 15, 0, 0);
-        return x;
-    }
-
-    /** Machines 0 to count - 1 are IDLE in rack 0. */
-    private static MachineFoundry withIdle(int count) {
-        MachineFoundry x = withImage();
-        for (int machine = 0; machine < count; machine++) {
-            x.report(machine, 0, 10, 0, 0);
-        }
-        return x;
-    }
-
-    /** Machines 0 to count - 1 are ordered in rack 0: the first two are INSTALLING. */
-    private static MachineFoundry withOrdered(int count) {
-        MachineFoundry x = withIdle(count);
-        for (int machine = 0; machine < count; machine++) {
-            x.order(machine);
-        }
-        return x;
-    }
-
-    private static MachineFoundry withInUse() {
-        MachineFoundry x = withOrdered(1);
-        x.finish(0, true);
-        return x;
-    }
-
-    /** The machines 0 to 7, each in the state of its number. */
-    private static MachineFoundry inEveryState() {
-        MachineFoundry x = withImage();
-        x.setBatch(2, 0);
-        for (int machine = 1; machine < 8; machine++) {
-            x.report(machine, machine == MachineFoundry.QUEUED ? 2 : 1, 10, 0, 0);
-        }
-        x.setBatch(1, 4);
-        x.order(MachineFoundry.QUEUED);
-        x.order(MachineFoundry.IN_USE);
-        x.finish(MachineFoundry.IN_USE, true);
-        x.order(MachineFoundry.DRAINING);
-        x.finish(MachineFoundry.DRAINING, true);
-        x.retire(MachineFoundry.DRAINING, 9);
-        x.setRetries(7, 1);
-        x.order(MachineFoundry.QUARANTINED);
-        x.finish(MachineFoundry.QUARANTINED, false);
-        x.setRetries(7, 3);
-        x.order(MachineFoundry.WAITING);
-        x.finish(MachineFoundry.WAITING, false);
-        x.order(MachineFoundry.INSTALLING);
-        return x;
-    }
-
-    private static void states(String what, MachineFoundry x, int... want) {
-        for (int machine = 0; machine < want.length; machine++) {
-            Due.same(what + ": stateOf(" + machine + ")", x.stateOf(machine), want[machine]);
-        }
-    }
-
-    private static void queue(String what, MachineFoundry x, int rack, String want) {
-        Due.same(what + ": the queue of rack " + rack, Due.queueOf(x, rack), want);
-    }
-
     // ---- the promises
 
     private static void aNewObject() {
@@ -134,10 +67,10 @@ public final class PromisesTest {
             Due.thrown("new: dropImage(" + image + ")", NO_SUCH, () -> x.dropImage(number));
         }
         for (int rack = 0; rack < 4; rack++) {
-            queue("new", x, rack, "[]");
+            Due.queue("new", x, rack, "[]");
             Due.same("new: the batch", x.setBatch(rack, 2), 2);
         }
-        MachineFoundry y = withOrdered(1);
+        MachineFoundry y = Scenes.withOrdered(1);
         Due.same("new: the first failure", y.finish(0, false), MachineFoundry.WAITING);
         Due.same("new: the first backoff", y.endOf(0), 1);
         y.advance(1);
@@ -156,7 +89,7 @@ public final class PromisesTest {
         Due.same("setImage: in place of what it was", x.matchOf(0), 7);
         x.setImage(0, 0, 0, 0, 0, 0);
         Due.same("setImage: an image of no kind", x.matchOf(0), 7);
-        Supplier<MachineFoundry> scene = () -> withOrdered(3);
+        Supplier<MachineFoundry> scene = () -> Scenes.withOrdered(3);
         for (int image : NO_IMAGES) {
             Due.refused("setImage(" + image + ")", NO_SUCH, scene, y -> y.setImage(image, 0, 0, 15, 0, 0));
             Due.refused("setImage(" + image + ", wrong)", NO_SUCH, scene, y -> y.setImage(image, 10, 0, 15, 0, 0));
@@ -175,7 +108,7 @@ public final class PromisesTest {
     }
 
     private static void setImageKeepsTheTime() {
-        MachineFoundry x = withImage();
+        MachineFoundry x = Scenes.withImage();
         Due.same("setImage: the time of a new image", x.setTime(0, 9), 2);
         x.setImage(0, 1, 1, 1, 1, 1);
         Due.same("setImage: the time of one that was set stays", x.setTime(0, 9), 9);
@@ -185,14 +118,14 @@ public final class PromisesTest {
     }
 
     private static void setTime() {
-        MachineFoundry x = withIdle(3);
+        MachineFoundry x = Scenes.withIdle(3);
         Due.same("setTime(0, 24)", x.setTime(0, 24), 2);
         x.order(0);
         Due.same("setTime(0, 1)", x.setTime(0, 1), 24);
         x.order(1);
         Due.same("setTime: what began before", x.endOf(0), 24);
         Due.same("setTime: what began behind", x.endOf(1), 1);
-        Supplier<MachineFoundry> scene = () -> withOrdered(3);
+        Supplier<MachineFoundry> scene = () -> Scenes.withOrdered(3);
         for (int image : NO_IMAGES) {
             Due.refused("setTime(" + image + ", 1)", NO_SUCH, scene, y -> y.setTime(image, 1));
         }
@@ -204,10 +137,10 @@ public final class PromisesTest {
     }
 
     private static void dropImage() {
-        MachineFoundry x = withOrdered(3);
+        MachineFoundry x = Scenes.withOrdered(3);
         x.finish(0, true);
         x.dropImage(0);
-        states("dropImage", x, MachineFoundry.IN_USE, MachineFoundry.INSTALLING, MachineFoundry.INSTALLING);
+        Due.states("dropImage", x, MachineFoundry.IN_USE, MachineFoundry.INSTALLING, MachineFoundry.INSTALLING);
         Due.same("dropImage: what is installed", x.imageOf(0), 0);
         Due.same("dropImage: what is being installed", x.imageOf(1), 0);
         Due.same("dropImage: no match", x.matchOf(0), MachineFoundry.NONE);
@@ -215,37 +148,37 @@ public final class PromisesTest {
         Due.thrown("setTime of a dropped image", NO_SUCH, () -> x.setTime(0, 1));
         Due.same("dropImage: installation goes on", x.finish(1, true), MachineFoundry.IN_USE);
         for (int image : NO_IMAGES) {
-            Due.refused("dropImage(" + image + ")", NO_SUCH, () -> withOrdered(3), y -> y.dropImage(image));
+            Due.refused("dropImage(" + image + ")", NO_SUCH, () -> Scenes.withOrdered(3), y -> y.dropImage(image));
         }
-        Due.refused("dropImage(3)", NO_SUCH, () -> withOrdered(3), y -> y.dropImage(3));
+        Due.refused("dropImage(3)", NO_SUCH, () -> Scenes.withOrdered(3), y -> y.dropImage(3));
     }
 
     private static void setBatch() {
-        MachineFoundry x = withOrdered(8);
-        queue("setBatch: 2", x, 0, "[2 3 4 5 6 7]");
+        MachineFoundry x = Scenes.withOrdered(8);
+        Due.queue("setBatch: 2", x, 0, "[2 3 4 5 6 7]");
         Due.same("setBatch(0, 4)", x.setBatch(0, 4), 2);
-        queue("setBatch: 4", x, 0, "[4 5 6 7]");
+        Due.queue("setBatch: 4", x, 0, "[4 5 6 7]");
         Due.same("setBatch(0, 1)", x.setBatch(0, 1), 4);
         Due.same("setBatch: what is INSTALLING goes on", x.installing(0), 4);
         for (int machine = 0; machine < 3; machine++) {
             x.finish(machine, true);
-            queue("setBatch: above the batch", x, 0, "[4 5 6 7]");
+            Due.queue("setBatch: above the batch", x, 0, "[4 5 6 7]");
         }
         x.finish(3, true);
-        queue("setBatch: below the batch again", x, 0, "[5 6 7]");
+        Due.queue("setBatch: below the batch again", x, 0, "[5 6 7]");
         Due.same("setBatch(0, 0)", x.setBatch(0, 0), 1);
         x.finish(4, true);
-        queue("setBatch: none", x, 0, "[5 6 7]");
-        MachineFoundry full = withIdle(16);
+        Due.queue("setBatch: none", x, 0, "[5 6 7]");
+        MachineFoundry full = Scenes.withIdle(16);
         full.setBatch(0, 0);
         for (int machine = 0; machine < 16; machine++) {
             full.order(machine);
         }
         full.dropImage(0);
         full.setBatch(0, 1);
-        queue("setBatch: none of 16 has a match", full, 0, "[]");
+        Due.queue("setBatch: none of 16 has a match", full, 0, "[]");
         Due.same("setBatch: the last of 16", full.stateOf(15), MachineFoundry.IDLE);
-        Supplier<MachineFoundry> scene = () -> withOrdered(5);
+        Supplier<MachineFoundry> scene = () -> Scenes.withOrdered(5);
         for (int rack : NO_RACKS) {
             Due.refused("setBatch(" + rack + ", 1)", NO_SUCH, scene, y -> y.setBatch(rack, 1));
             Due.refused("setBatch(" + rack + ", 5)", NO_SUCH, scene, y -> y.setBatch(rack, 5));
@@ -256,7 +189,7 @@ public final class PromisesTest {
     }
 
     private static void setRetries() {
-        MachineFoundry x = withOrdered(2);
+        MachineFoundry x = Scenes.withOrdered(2);
         x.finish(0, false);
         x.setRetries(24, 1);
         Due.same("setRetries: what is WAITING stays so", x.stateOf(0), MachineFoundry.WAITING);
@@ -270,7 +203,7 @@ public final class PromisesTest {
         x.advance(48);
         x.setRetries(1, 2);
         Due.same("setRetries: more failures than the most", x.finish(0, false), MachineFoundry.QUARANTINED);
-        Supplier<MachineFoundry> scene = () -> withOrdered(3);
+        Supplier<MachineFoundry> scene = () -> Scenes.withOrdered(3);
         for (int wrong : new int[] {0, -1, 25, Integer.MIN_VALUE, Integer.MAX_VALUE}) {
             Due.refused("setRetries(" + wrong + ", 1)", BAD_NUMBER, scene, y -> y.setRetries(wrong, 1));
         }
@@ -280,12 +213,12 @@ public final class PromisesTest {
     }
 
     private static void report() {
-        MachineFoundry x = withImage();
+        MachineFoundry x = Scenes.withImage();
         Due.same("report(15, 3, 99, 3, 15)", x.report(15, 3, 99, 3, 15), MachineFoundry.IDLE);
         Due.same("report: an entry", x.entries(), 1);
         Due.same("report again", x.report(15, 0, 0, 0, 0), MachineFoundry.IDLE);
         Due.same("report again: no entry", x.entries(), 1);
-        Supplier<MachineFoundry> scene = () -> withOrdered(4);
+        Supplier<MachineFoundry> scene = () -> Scenes.withOrdered(4);
         for (int machine : NO_MACHINES) {
             Due.refused("report(" + machine + ")", NO_SUCH, scene, y -> y.report(machine, 0, 0, 0, 0));
             Due.refused("report(" + machine + ", wrong)", NO_SUCH, scene, y -> y.report(machine, 0, 100, 0, 0));
@@ -306,18 +239,18 @@ public final class PromisesTest {
     }
 
     private static void reportOfQueued() {
-        MachineFoundry x = withOrdered(6);
+        MachineFoundry x = Scenes.withOrdered(6);
         x.report(6, 1, 0, 0, 0);
         x.setBatch(1, 0);
         x.order(6);
         int entries = x.entries();
         Due.same("report of QUEUED", x.report(3, 0, 99, 3, 15), MachineFoundry.QUEUED);
-        queue("report of QUEUED, the same rack", x, 0, "[2 3 4 5]");
+        Due.queue("report of QUEUED, the same rack", x, 0, "[2 3 4 5]");
         Due.same("report of QUEUED, another rack", x.report(3, 1, 10, 0, 0), MachineFoundry.QUEUED);
-        queue("report of QUEUED, the old rack", x, 0, "[2 4 5]");
-        queue("report of QUEUED, the new rack", x, 1, "[6 3]");
+        Due.queue("report of QUEUED, the old rack", x, 0, "[2 4 5]");
+        Due.queue("report of QUEUED, the new rack", x, 1, "[6 3]");
         x.report(3, 0, 10, 0, 0);
-        queue("report of QUEUED, back again", x, 0, "[2 4 5 3]");
+        Due.queue("report of QUEUED, back again", x, 0, "[2 4 5 3]");
         Due.same("report of QUEUED: no entry", x.entries(), entries);
         Due.same("report of QUEUED, to a rack with room", x.report(4, 2, 10, 0, 0), MachineFoundry.INSTALLING);
         x.setImage(0, 0, 0, 1, 0, 0);
@@ -325,13 +258,13 @@ public final class PromisesTest {
     }
 
     private static void reportOfInstalling() {
-        MachineFoundry x = withOrdered(4);
+        MachineFoundry x = Scenes.withOrdered(4);
         Due.same("report of INSTALLING", x.report(0, 1, 10, 0, 0), MachineFoundry.WAITING);
         Due.same("report of INSTALLING: its failures", x.failuresOf(0), 1);
         Due.same("report of INSTALLING: the next one begins", x.stateOf(2), MachineFoundry.INSTALLING);
         x.setBatch(1, 0);
         x.advance(1);
-        queue("report of INSTALLING: queued in the new rack", x, 1, "[0]");
+        Due.queue("report of INSTALLING: queued in the new rack", x, 1, "[0]");
         x.setRetries(1, 1);
         Due.same("report of INSTALLING, the last try", x.report(1, 0, 10, 0, 0), MachineFoundry.QUARANTINED);
     }
@@ -339,7 +272,7 @@ public final class PromisesTest {
     private static void reportInOtherStates() {
         for (int state : new int[] {MachineFoundry.IDLE, MachineFoundry.WAITING, MachineFoundry.IN_USE,
                 MachineFoundry.DRAINING, MachineFoundry.QUARANTINED}) {
-            MachineFoundry x = inEveryState();
+            MachineFoundry x = Scenes.inEveryState();
             int entries = x.entries();
             int end = x.endOf(state);
             int image = x.imageOf(state);
@@ -355,23 +288,23 @@ public final class PromisesTest {
     }
 
     private static void order() {
-        MachineFoundry x = withIdle(3);
+        MachineFoundry x = Scenes.withIdle(3);
         Due.same("order(0)", x.order(0), MachineFoundry.INSTALLING);
         Due.same("order: two entries", x.stateBefore(0, 1), MachineFoundry.QUEUED);
         Due.same("order: two entries", x.stateBefore(0, 2), MachineFoundry.IDLE);
         x.order(1);
         Due.same("order(2)", x.order(2), MachineFoundry.QUEUED);
         for (int machine : NO_MACHINES) {
-            Due.refused("order(" + machine + ")", NO_SUCH, () -> withOrdered(3), y -> y.order(machine));
+            Due.refused("order(" + machine + ")", NO_SUCH, () -> Scenes.withOrdered(3), y -> y.order(machine));
         }
         for (int state = 0; state < 8; state++) {
             int machine = state;
             if (state != MachineFoundry.IDLE) {
-                Due.refused("order in state " + state, BAD_STATE, PromisesTest::inEveryState, y -> y.order(machine));
+                Due.refused("order in state " + state, BAD_STATE, Scenes::inEveryState, y -> y.order(machine));
             }
         }
         Supplier<MachineFoundry> unmatched = () -> {
-            MachineFoundry y = withIdle(2);
+            MachineFoundry y = Scenes.withIdle(2);
             y.setImage(0, 9, 11, 15, 0, 0);
             return y;
         };
@@ -379,24 +312,24 @@ public final class PromisesTest {
     }
 
     private static void orderBehindOthers() {
-        MachineFoundry x = withIdle(6);
+        MachineFoundry x = Scenes.withIdle(6);
         for (int machine = 5; machine >= 0; machine--) {
             x.order(machine);
         }
-        queue("order", x, 0, "[3 2 1 0]");
+        Due.queue("order", x, 0, "[3 2 1 0]");
         x.cancel(3);
         x.order(3);
-        queue("order again", x, 0, "[2 1 0 3]");
+        Due.queue("order again", x, 0, "[2 1 0 3]");
         x.finish(5, true);
-        queue("order: the first one leaves", x, 0, "[1 0 3]");
+        Due.queue("order: the first one leaves", x, 0, "[1 0 3]");
         Due.same("order: the first one begins", x.stateOf(2), MachineFoundry.INSTALLING);
     }
 
     private static void cancel() {
-        MachineFoundry x = withOrdered(4);
+        MachineFoundry x = Scenes.withOrdered(4);
         x.cancel(2);
         Due.same("cancel of QUEUED", x.stateOf(2), MachineFoundry.IDLE);
-        queue("cancel of QUEUED", x, 0, "[3]");
+        Due.queue("cancel of QUEUED", x, 0, "[3]");
         x.finish(0, false);
         x.cancel(0);
         Due.same("cancel of WAITING", x.stateOf(0), MachineFoundry.IDLE);
@@ -405,18 +338,18 @@ public final class PromisesTest {
         x.advance(1);
         Due.same("cancel: never QUEUED", x.stateOf(0), MachineFoundry.IDLE);
         for (int machine : NO_MACHINES) {
-            Due.refused("cancel(" + machine + ")", NO_SUCH, () -> withOrdered(3), y -> y.cancel(machine));
+            Due.refused("cancel(" + machine + ")", NO_SUCH, () -> Scenes.withOrdered(3), y -> y.cancel(machine));
         }
         for (int state = 0; state < 8; state++) {
             int machine = state;
             if (state != MachineFoundry.QUEUED && state != MachineFoundry.WAITING) {
-                Due.refused("cancel in state " + state, BAD_STATE, PromisesTest::inEveryState, y -> y.cancel(machine));
+                Due.refused("cancel in state " + state, BAD_STATE, Scenes::inEveryState, y -> y.cancel(machine));
             }
         }
     }
 
     private static void finish() {
-        MachineFoundry x = withOrdered(4);
+        MachineFoundry x = Scenes.withOrdered(4);
         Due.same("finish(0, false)", x.finish(0, false), MachineFoundry.WAITING);
         Due.same("finish: the next one begins", x.stateOf(2), MachineFoundry.INSTALLING);
         Due.same("finish(1, true)", x.finish(1, true), MachineFoundry.IN_USE);
@@ -428,19 +361,19 @@ public final class PromisesTest {
         Due.same("finish(0, true)", x.finish(0, true), MachineFoundry.IN_USE);
         Due.same("finish: no failures any more", x.failuresOf(0), 0);
         for (int machine : NO_MACHINES) {
-            Due.refused("finish(" + machine + ")", NO_SUCH, () -> withOrdered(3), y -> y.finish(machine, true));
+            Due.refused("finish(" + machine + ")", NO_SUCH, () -> Scenes.withOrdered(3), y -> y.finish(machine, true));
         }
         for (int state = 0; state < 8; state++) {
             int machine = state;
             if (state != MachineFoundry.INSTALLING) {
-                Due.refused("finish in state " + state, BAD_STATE, PromisesTest::inEveryState, y -> y.finish(machine, true));
-                Due.refused("fail in state " + state, BAD_STATE, PromisesTest::inEveryState, y -> y.finish(machine, false));
+                Due.refused("finish in state " + state, BAD_STATE, Scenes::inEveryState, y -> y.finish(machine, true));
+                Due.refused("fail in state " + state, BAD_STATE, Scenes::inEveryState, y -> y.finish(machine, false));
             }
         }
     }
 
     private static void retire() {
-        MachineFoundry x = withInUse();
+        MachineFoundry x = Scenes.withInUse();
         x.advance(3);
         int entries = x.entries();
         x.retire(0, 48);
@@ -453,30 +386,30 @@ public final class PromisesTest {
         Due.same("retire: its end", x.stateOf(0), MachineFoundry.IDLE);
         Due.same("retire: wiped", x.wipes(), 1);
         Due.same("retire: two entries", x.entries(), entries + 2);
-        MachineFoundry y = withInUse();
+        MachineFoundry y = Scenes.withInUse();
         entries = y.entries();
         y.retire(0, 0);
         Due.same("retire(0, 0)", y.stateOf(0), MachineFoundry.IDLE);
         Due.same("retire(0, 0): wiped", y.wipes(), 1);
         Due.same("retire(0, 0): never DRAINING", y.entries(), entries + 1);
         for (int machine : NO_MACHINES) {
-            Due.refused("retire(" + machine + ", 1)", NO_SUCH, () -> withOrdered(3), z -> z.retire(machine, 1));
-            Due.refused("retire(" + machine + ", 49)", NO_SUCH, () -> withOrdered(3), z -> z.retire(machine, 49));
+            Due.refused("retire(" + machine + ", 1)", NO_SUCH, () -> Scenes.withOrdered(3), z -> z.retire(machine, 1));
+            Due.refused("retire(" + machine + ", 49)", NO_SUCH, () -> Scenes.withOrdered(3), z -> z.retire(machine, 49));
         }
         for (int wrong : new int[] {-1, 49, Integer.MIN_VALUE, Integer.MAX_VALUE}) {
-            Due.refused("retire(0, " + wrong + ")", BAD_NUMBER, PromisesTest::withInUse, z -> z.retire(0, wrong));
-            Due.refused("retire(9, " + wrong + ")", BAD_NUMBER, PromisesTest::withInUse, z -> z.retire(9, wrong));
+            Due.refused("retire(0, " + wrong + ")", BAD_NUMBER, Scenes::withInUse, z -> z.retire(0, wrong));
+            Due.refused("retire(9, " + wrong + ")", BAD_NUMBER, Scenes::withInUse, z -> z.retire(9, wrong));
         }
         for (int state = 0; state < 8; state++) {
             int machine = state;
             if (state != MachineFoundry.IN_USE) {
-                Due.refused("retire in state " + state, BAD_STATE, PromisesTest::inEveryState, z -> z.retire(machine, 5));
+                Due.refused("retire in state " + state, BAD_STATE, Scenes::inEveryState, z -> z.retire(machine, 5));
             }
         }
     }
 
     private static void keep() {
-        MachineFoundry x = withInUse();
+        MachineFoundry x = Scenes.withInUse();
         x.retire(0, 2);
         x.advance(1);
         x.keep(0);
@@ -487,18 +420,18 @@ public final class PromisesTest {
         Due.same("keep: never wiped", x.stateOf(0), MachineFoundry.IN_USE);
         Due.same("keep: no wipes", x.wipes(), 0);
         for (int machine : NO_MACHINES) {
-            Due.refused("keep(" + machine + ")", NO_SUCH, () -> withOrdered(3), y -> y.keep(machine));
+            Due.refused("keep(" + machine + ")", NO_SUCH, () -> Scenes.withOrdered(3), y -> y.keep(machine));
         }
         for (int state = 0; state < 8; state++) {
             int machine = state;
             if (state != MachineFoundry.DRAINING) {
-                Due.refused("keep in state " + state, BAD_STATE, PromisesTest::inEveryState, y -> y.keep(machine));
+                Due.refused("keep in state " + state, BAD_STATE, Scenes::inEveryState, y -> y.keep(machine));
             }
         }
     }
 
     private static void release() {
-        MachineFoundry x = withIdle(1);
+        MachineFoundry x = Scenes.withIdle(1);
         x.setRetries(1, 1);
         x.order(0);
         x.finish(0, false);
@@ -507,35 +440,35 @@ public final class PromisesTest {
         Due.same("release", x.stateOf(0), MachineFoundry.IDLE);
         Due.same("release: no failures any more", x.failuresOf(0), 0);
         for (int machine : NO_MACHINES) {
-            Due.refused("release(" + machine + ")", NO_SUCH, () -> withOrdered(3), y -> y.release(machine));
+            Due.refused("release(" + machine + ")", NO_SUCH, () -> Scenes.withOrdered(3), y -> y.release(machine));
         }
         for (int state = 0; state < 8; state++) {
             int machine = state;
             if (state != MachineFoundry.QUARANTINED) {
-                Due.refused("release in state " + state, BAD_STATE, PromisesTest::inEveryState, y -> y.release(machine));
+                Due.refused("release in state " + state, BAD_STATE, Scenes::inEveryState, y -> y.release(machine));
             }
         }
     }
 
     private static void advance() {
-        MachineFoundry x = withOrdered(3);
+        MachineFoundry x = Scenes.withOrdered(3);
         Due.same("advance: nothing ends", x.advance(1), 0);
         // Both time out in hour 2; the third begins in the same hour.
         Due.same("advance: two fail, one begins", x.advance(1), 3);
-        states("advance", x, MachineFoundry.WAITING, MachineFoundry.WAITING, MachineFoundry.INSTALLING);
+        Due.states("advance", x, MachineFoundry.WAITING, MachineFoundry.WAITING, MachineFoundry.INSTALLING);
         Due.same("advance: what began then", x.endOf(2), 4);
         Due.same("advance: what failed then", x.endOf(0), 3);
         // Both are QUEUED in hour 3, but only one finds room.
         Due.same("advance: two rest, one begins", x.advance(1), 3);
-        states("advance", x, MachineFoundry.INSTALLING, MachineFoundry.QUEUED, MachineFoundry.INSTALLING);
+        Due.states("advance", x, MachineFoundry.INSTALLING, MachineFoundry.QUEUED, MachineFoundry.INSTALLING);
         for (int wrong : new int[] {0, -1, 201, Integer.MIN_VALUE, Integer.MAX_VALUE}) {
-            Due.refused("advance(" + wrong + ")", BAD_NUMBER, () -> withOrdered(3), y -> y.advance(wrong));
+            Due.refused("advance(" + wrong + ")", BAD_NUMBER, () -> Scenes.withOrdered(3), y -> y.advance(wrong));
         }
     }
 
     /** In hour 6 one machine of each sort ends; the numbers run against the order that is due. */
     private static void advanceInOrder() {
-        MachineFoundry x = withImage();
+        MachineFoundry x = Scenes.withImage();
         x.setTime(0, 6);
         x.setRetries(6, 3);
         for (int machine = 0; machine < 7; machine++) {
@@ -553,7 +486,7 @@ public final class PromisesTest {
         x.retire(3, 6);
         x.setBatch(0, 2);
         x.order(6);
-        states("advance in order: ahead", x, MachineFoundry.WAITING, MachineFoundry.WAITING,
+        Due.states("advance in order: ahead", x, MachineFoundry.WAITING, MachineFoundry.WAITING,
             MachineFoundry.DRAINING, MachineFoundry.DRAINING, MachineFoundry.INSTALLING, MachineFoundry.INSTALLING,
             MachineFoundry.INSTALLING);
         Due.same("advance in order", x.advance(6), 9);
@@ -566,7 +499,7 @@ public final class PromisesTest {
     }
 
     private static void advanceCountsAllEntries() {
-        MachineFoundry x = withIdle(16);
+        MachineFoundry x = Scenes.withIdle(16);
         x.setRetries(1, 9);
         x.setTime(0, 1);
         for (int rack = 0; rack < 4; rack++) {
@@ -597,14 +530,14 @@ public final class PromisesTest {
     }
 
     private static void stateOf() {
-        states("stateOf", inEveryState(), 0, 1, 2, 3, 4, 5, 6, 7);
+        Due.states("stateOf", Scenes.inEveryState(), 0, 1, 2, 3, 4, 5, 6, 7);
         for (int machine : NO_MACHINES) {
-            Due.refused("stateOf(" + machine + ")", NO_SUCH, () -> withOrdered(3), y -> y.stateOf(machine));
+            Due.refused("stateOf(" + machine + ")", NO_SUCH, () -> Scenes.withOrdered(3), y -> y.stateOf(machine));
         }
     }
 
     private static void reason() {
-        MachineFoundry x = inEveryState();
+        MachineFoundry x = Scenes.inEveryState();
         int[] due = {MachineFoundry.NOT_REPORTED, MachineFoundry.NOT_ORDERED, MachineFoundry.BATCH,
             MachineFoundry.AT_WORK, MachineFoundry.BACKOFF, MachineFoundry.NO_REASON, MachineFoundry.LEAVING,
             MachineFoundry.FAILURES};
@@ -618,7 +551,7 @@ public final class PromisesTest {
             Due.same("reason(" + machine + ") without a match", x.reason(machine), due[machine]);
         }
         for (int machine : NO_MACHINES) {
-            Due.refused("reason(" + machine + ")", NO_SUCH, () -> withOrdered(3), y -> y.reason(machine));
+            Due.refused("reason(" + machine + ")", NO_SUCH, () -> Scenes.withOrdered(3), y -> y.reason(machine));
         }
     }
 
@@ -639,7 +572,7 @@ public final class PromisesTest {
         x.dropImage(7);
         Due.same("matchOf: as things are now", x.matchOf(0), 2);
         for (int machine : NO_MACHINES) {
-            Due.refused("matchOf(" + machine + ")", NO_SUCH, () -> withOrdered(3), y -> y.matchOf(machine));
+            Due.refused("matchOf(" + machine + ")", NO_SUCH, () -> Scenes.withOrdered(3), y -> y.matchOf(machine));
         }
     }
 
@@ -671,7 +604,7 @@ public final class PromisesTest {
     }
 
     private static void imageOf() {
-        MachineFoundry x = inEveryState();
+        MachineFoundry x = Scenes.inEveryState();
         int[] due = {-1, -1, -1, 0, -1, 0, 0, -1};
         for (int machine = 0; machine < 8; machine++) {
             Due.same("imageOf(" + machine + ")", x.imageOf(machine), due[machine]);
@@ -686,12 +619,12 @@ public final class PromisesTest {
         x.setImage(0, 9, 0, 15, 0, 0);
         Due.same("imageOf: no later match", x.imageOf(MachineFoundry.QUEUED), 1);
         for (int machine : NO_MACHINES) {
-            Due.refused("imageOf(" + machine + ")", NO_SUCH, () -> withOrdered(3), y -> y.imageOf(machine));
+            Due.refused("imageOf(" + machine + ")", NO_SUCH, () -> Scenes.withOrdered(3), y -> y.imageOf(machine));
         }
     }
 
     private static void endOf() {
-        MachineFoundry x = inEveryState();
+        MachineFoundry x = Scenes.inEveryState();
         int[] due = {-1, -1, -1, 2, 7, -1, 9, -1};
         for (int machine = 0; machine < 8; machine++) {
             Due.same("endOf(" + machine + ")", x.endOf(machine), due[machine]);
@@ -701,12 +634,12 @@ public final class PromisesTest {
             Due.same("endOf(" + machine + ") an hour later", x.endOf(machine), due[machine]);
         }
         for (int machine : NO_MACHINES) {
-            Due.refused("endOf(" + machine + ")", NO_SUCH, () -> withOrdered(3), y -> y.endOf(machine));
+            Due.refused("endOf(" + machine + ")", NO_SUCH, () -> Scenes.withOrdered(3), y -> y.endOf(machine));
         }
     }
 
     private static void endOfDoubles() {
-        MachineFoundry x = withOrdered(1);
+        MachineFoundry x = Scenes.withOrdered(1);
         x.setRetries(24, 9);
         int[] backoffs = {24, 48, 96, 192, 384, 768, 1536, 3072};
         for (int i = 0; i < backoffs.length; i++) {
@@ -727,7 +660,7 @@ public final class PromisesTest {
     }
 
     private static void failuresOf() {
-        MachineFoundry x = inEveryState();
+        MachineFoundry x = Scenes.inEveryState();
         int[] due = {0, 0, 0, 0, 1, 0, 0, 1};
         for (int machine = 0; machine < 8; machine++) {
             Due.same("failuresOf(" + machine + ")", x.failuresOf(machine), due[machine]);
@@ -735,12 +668,12 @@ public final class PromisesTest {
         x.advance(2);
         Due.same("failuresOf: time has passed", x.failuresOf(MachineFoundry.INSTALLING), 1);
         for (int machine : NO_MACHINES) {
-            Due.refused("failuresOf(" + machine + ")", NO_SUCH, () -> withOrdered(3), y -> y.failuresOf(machine));
+            Due.refused("failuresOf(" + machine + ")", NO_SUCH, () -> Scenes.withOrdered(3), y -> y.failuresOf(machine));
         }
     }
 
     private static void installing() {
-        MachineFoundry x = withOrdered(3);
+        MachineFoundry x = Scenes.withOrdered(3);
         x.report(9, 3, 0, 0, 0);
         x.order(9);
         Due.same("installing(0)", x.installing(0), 2);
@@ -750,12 +683,12 @@ public final class PromisesTest {
         x.finish(0, true);
         Due.same("installing(0) behind finish", x.installing(0), 1);
         for (int rack : NO_RACKS) {
-            Due.refused("installing(" + rack + ")", NO_SUCH, () -> withOrdered(3), y -> y.installing(rack));
+            Due.refused("installing(" + rack + ")", NO_SUCH, () -> Scenes.withOrdered(3), y -> y.installing(rack));
         }
     }
 
     private static void queueAt() {
-        MachineFoundry x = withOrdered(16);
+        MachineFoundry x = Scenes.withOrdered(16);
         for (int place = 0; place < 14; place++) {
             Due.same("queueAt(0, " + place + ")", x.queueAt(0, place), place + 2);
         }
@@ -763,14 +696,14 @@ public final class PromisesTest {
         Due.same("queueAt(0, MAX)", x.queueAt(0, Integer.MAX_VALUE), MachineFoundry.NONE);
         Due.same("queueAt(3, 0)", x.queueAt(3, 0), MachineFoundry.NONE);
         for (int rack : NO_RACKS) {
-            Due.refused("queueAt(" + rack + ", 0)", NO_SUCH, () -> withOrdered(4), y -> y.queueAt(rack, 0));
+            Due.refused("queueAt(" + rack + ", 0)", NO_SUCH, () -> Scenes.withOrdered(4), y -> y.queueAt(rack, 0));
         }
-        Due.refused("queueAt(0, -1)", NO_SUCH, () -> withOrdered(4), y -> y.queueAt(0, -1));
-        Due.refused("queueAt(0, MIN)", NO_SUCH, () -> withOrdered(4), y -> y.queueAt(0, Integer.MIN_VALUE));
+        Due.refused("queueAt(0, -1)", NO_SUCH, () -> Scenes.withOrdered(4), y -> y.queueAt(0, -1));
+        Due.refused("queueAt(0, MIN)", NO_SUCH, () -> Scenes.withOrdered(4), y -> y.queueAt(0, Integer.MIN_VALUE));
     }
 
     private static void nextChange() {
-        MachineFoundry x = inEveryState();
+        MachineFoundry x = Scenes.inEveryState();
         Due.same("nextChange: INSTALLING", x.nextChange(), 2);
         x.finish(MachineFoundry.INSTALLING, true);
         x.advance(1);
@@ -784,7 +717,7 @@ public final class PromisesTest {
     }
 
     private static void wipes() {
-        MachineFoundry x = withOrdered(2);
+        MachineFoundry x = Scenes.withOrdered(2);
         x.finish(0, true);
         x.finish(1, true);
         x.retire(0, 0);
@@ -820,7 +753,7 @@ public final class PromisesTest {
     }
 
     private static void machineAt() {
-        MachineFoundry x = withIdle(16);
+        MachineFoundry x = Scenes.withIdle(16);
         for (int machine = 0; machine < 16; machine++) {
             Due.same("machineAt", x.machineAt(15 - machine), machine);
         }
@@ -839,12 +772,12 @@ public final class PromisesTest {
         for (int wrong : new int[] {40, -1, Integer.MIN_VALUE, Integer.MAX_VALUE}) {
             Due.thrown("machineAt(" + wrong + ")", NO_SUCH, () -> x.machineAt(wrong));
         }
-        Due.refused("machineAt(8) of 8", NO_SUCH, () -> withOrdered(3), y -> y.machineAt(8));
-        Due.refused("machineAt(-1)", NO_SUCH, () -> withOrdered(3), y -> y.machineAt(-1));
+        Due.refused("machineAt(8) of 8", NO_SUCH, () -> Scenes.withOrdered(3), y -> y.machineAt(8));
+        Due.refused("machineAt(-1)", NO_SUCH, () -> Scenes.withOrdered(3), y -> y.machineAt(-1));
     }
 
     private static void stateBefore() {
-        MachineFoundry x = withOrdered(1);
+        MachineFoundry x = Scenes.withOrdered(1);
         x.report(1, 0, 0, 0, 0);
         x.finish(0, false);
         int[] due = {MachineFoundry.WAITING, MachineFoundry.INSTALLING, MachineFoundry.INSTALLING,
@@ -855,7 +788,7 @@ public final class PromisesTest {
         Due.same("stateBefore(1, 1)", x.stateBefore(1, 1), MachineFoundry.IDLE);
         Due.same("stateBefore(1, 2)", x.stateBefore(1, 2), MachineFoundry.UNKNOWN);
         Due.same("stateBefore(2, 5)", x.stateBefore(2, 5), MachineFoundry.UNKNOWN);
-        Supplier<MachineFoundry> scene = () -> withOrdered(3);
+        Supplier<MachineFoundry> scene = () -> Scenes.withOrdered(3);
         for (int machine : NO_MACHINES) {
             Due.refused("stateBefore(" + machine + ", 0)", NO_SUCH, scene, y -> y.stateBefore(machine, 0));
             Due.refused("stateBefore(" + machine + ", -1)", NO_SUCH, scene, y -> y.stateBefore(machine, -1));
@@ -863,7 +796,7 @@ public final class PromisesTest {
         for (int wrong : new int[] {-1, 9, Integer.MIN_VALUE, Integer.MAX_VALUE}) {
             Due.refused("stateBefore(0, " + wrong + ")", BAD_NUMBER, scene, y -> y.stateBefore(0, wrong));
         }
-        MachineFoundry full = withIdle(1);
+        MachineFoundry full = Scenes.withIdle(1);
         full.setBatch(0, 0);
         for (int i = 0; i < 25; i++) {
             full.order(0);
