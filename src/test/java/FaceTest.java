@@ -58,6 +58,7 @@ public final class FaceTest {
         List<String> members = new ArrayList<>();
         for (Field field : MachineFoundry.class.getFields()) {
             members.add("constant " + field.getName() + " = " + valueOf(field));
+            Due.same(field.getName() + " is a static int", isStaticInt(field) ? 1 : 0, 1);
         }
         for (Constructor<?> constructor : MachineFoundry.class.getConstructors()) {
             members.add("MachineFoundry" + ends(constructor.getParameterTypes(), constructor.getExceptionTypes()));
@@ -66,10 +67,15 @@ public final class FaceTest {
             if (Modifier.isPublic(method.getModifiers())) {
                 members.add(method.getReturnType().getSimpleName() + " " + method.getName()
                     + ends(method.getParameterTypes(), method.getExceptionTypes()));
+                Due.same(method.getName() + " is a call of an object", method.getModifiers(), Modifier.PUBLIC);
             }
         }
         Collections.sort(members);
         return members;
+    }
+
+    private static boolean isStaticInt(Field field) {
+        return field.getType() == int.class && Modifier.isStatic(field.getModifiers());
     }
 
     private static int valueOf(Field field) {

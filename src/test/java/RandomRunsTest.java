@@ -93,6 +93,20 @@ public final class RandomRunsTest {
         return number >= 0 && number < 16 ? number % machines : number;
     }
 
+    /** Often one that is in the state, if there is one: else few machines would come to be in use and to leave. */
+    private int machineIn(int state) {
+        int first = random.nextInt(16);
+        if (random.nextInt(3) > 0) {
+            for (int i = 0; i < 16; i++) {
+                int machine = (first + i) % 16;
+                if (model.stateOf(machine) == state) {
+                    return machine;
+                }
+            }
+        }
+        return machine();
+    }
+
     private int rack() {
         int number = number(0, 3);
         return number == 3 && machines < 16 ? 0 : number;
@@ -120,7 +134,7 @@ public final class RandomRunsTest {
             case 3: setBatch(a[1]); break;
             case 4: setRetries(); break;
             case 5: case 6: both("report ", a, () -> x.report(a[0], a[1], a[2], a[3], a[4]), () -> y.report(a[0], a[1], a[2], a[3], a[4])); break;
-            case 7: case 8: both("order ", a, () -> x.order(a[0]), () -> y.order(a[0])); break;
+            case 7: case 8: order(); break;
             case 9: finish(); break;
             case 10: retire(); break;
             case 11: both("keep ", a, () -> none(() -> x.keep(a[0])), () -> none(() -> y.keep(a[0]))); break;
@@ -153,14 +167,19 @@ public final class RandomRunsTest {
         both("setRetries ", new int[] {first, most}, () -> none(() -> program.setRetries(first, most)), () -> none(() -> model.setRetries(first, most)));
     }
 
+    private void order() {
+        int machine = machineIn(MachineFoundry.IDLE);
+        both("order ", new int[] {machine}, () -> program.order(machine), () -> model.order(machine));
+    }
+
     private void finish() {
-        int machine = machine();
-        boolean isGood = random.nextInt(3) == 0;
-        both("finish " + isGood, new int[] {machine}, () -> program.finish(machine, isGood), () -> model.finish(machine, isGood));
+        int machine = machineIn(MachineFoundry.INSTALLING);
+        boolean isGood = random.nextBoolean();
+        both("finish " + isGood + " ", new int[] {machine}, () -> program.finish(machine, isGood), () -> model.finish(machine, isGood));
     }
 
     private void retire() {
-        int machine = machine();
+        int machine = machineIn(MachineFoundry.IN_USE);
         int hours = random.nextInt(3) > 0 ? number(0, 3) : number(0, 48);
         both("retire ", new int[] {machine, hours}, () -> none(() -> program.retire(machine, hours)), () -> none(() -> model.retire(machine, hours)));
     }
